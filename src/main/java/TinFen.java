@@ -979,23 +979,13 @@ public final class TinFen {
         }
     }
 
-    /** STEPS and ends in a row; a when knows its end, an end its beginning, by 'link'. */
+    /**
+     * STEPS and ends in a row, each by the number of its WORD; a when by that of its test's WORD, or by its
+     * sign behind got. By 'link' a when and a loop know their end, and an end its beginning.
+     */
     private static final class Years {
         static final int MAX_STEPS = 30;
         static final int MAX_OPS = 2 * MAX_STEPS;
-        static final int PASS = 0;
-        static final int BITE = 1;
-        static final int LEARN = 2;
-        static final int LOSE = 3;
-        static final int ANY = 4;
-        static final int STOP = 5;
-        static final int LOOP = 6;
-        static final int END = 7;
-        static final int WHEN_ON = 8;
-        static final int WHEN_GONE = 9;
-        static final int WHEN_LESS = 10;
-        static final int WHEN_MORE = 11;
-        static final int WHEN_SAME = 12;
 
         boolean there;
         int steps;
@@ -1029,7 +1019,7 @@ public final class TinFen {
         void addEnd(int opening) {
             link[opening] = size;
             link[size] = opening;
-            addOp(END, 0, 0);
+            addOp(Tokens.END, 0, 0);
         }
 
         private void addOp(int kind, int a, int b) {
@@ -1092,18 +1082,16 @@ public final class TinFen {
         int faultPlace = TinFen.NONE;
 
         Tokens() {
-            long code = NO_NAME;
-            int many = 0;
-            for (int i = 0; i < SPELLED.length() && many < KEYWORDS; i++) {
-                char c = SPELLED.charAt(i);
-                if (c == ' ') {
-                    keywords[many] = code;
-                    many++;
-                    code = NO_NAME;
-                } else {
-                    code = withLetter(code, c);
-                }
+            byte[] spelled = new byte[SPELLED.length()];
+            for (int i = 0; i < spelled.length; i++) {
+                spelled[i] = (byte) SPELLED.charAt(i);
             }
+            open(spelled, spelled.length);
+            for (int i = 0; i < KEYWORDS; i++) {
+                keywords[i] = word;
+                advance();
+            }
+            faultKind = TinFen.NONE;
         }
 
         void open(byte[] newText, int newLength) {
@@ -1126,9 +1114,9 @@ public final class TinFen {
             sign = 0;
             if (at >= length) {
                 kind = TEXT_END;
-            } else if (isLetter(text[at])) {
+            } else if (text[at] >= 'a' && text[at] <= 'z') {
                 scanWord();
-            } else if (isDigit(text[at])) {
+            } else if (text[at] >= '0' && text[at] <= '9') {
                 scanNumber();
             } else {
                 scanSign();
@@ -1137,8 +1125,9 @@ public final class TinFen {
 
         private void scanWord() {
             long code = NO_NAME;
-            while (at < length && isLetter(text[at])) {
-                code = withLetter(code, text[at]);
+            while (at < length && text[at] >= 'a' && text[at] <= 'z') {
+                // five bits a letter: up to 8 letters make unlike numbers, none of them NO_NAME
+                code = code * 32 + (text[at] - 'a' + 1);
                 at++;
             }
             kind = WORD;
@@ -1154,7 +1143,7 @@ public final class TinFen {
         }
 
         private void scanNumber() {
-            while (at < length && isDigit(text[at])) {
+            while (at < length && text[at] >= '0' && text[at] <= '9') {
                 if (at - start < MAX_DIGITS) {
                     number = number * 10 + text[at] - '0';
                 }
@@ -1171,19 +1160,6 @@ public final class TinFen {
             at++;
         }
 
-        private static boolean isLetter(int c) {
-            return c >= 'a' && c <= 'z';
-        }
-
-        private static boolean isDigit(int c) {
-            return c >= '0' && c <= '9';
-        }
-
-        /** Five bits a letter: up to 8 letters make unlike numbers, none of them NO_NAME. */
-        private static long withLetter(long code, int letter) {
-            return code * 32 + (letter - 'a' + 1);
-        }
-
         boolean isName() {
             return kind == WORD && word != NO_NAME && keyword == TinFen.NONE;
         }
@@ -1196,7 +1172,9 @@ public final class TinFen {
         }
 
         boolean misplaced() {
-            return faulty(kind == NO_TOKEN ? 1 : 2);
+            faultKind = kind == NO_TOKEN ? 1 : 2;
+            faultPlace = start;
+            return false;
         }
 
         boolean takeWord(int wanted) {
@@ -1460,8 +1438,8 @@ public final class TinFen {
             depth = 0;
             tokens.open(text, length);
             for (int i = 0; i < MAX_YEARS_TEXT && tokens.kind != Tokens.TEXT_END; i++) {
-                boolean taken = tokens.keyword == Tokens.END ? readEnd(y) : readStep(y, f);
-                if (!taken) {
+                boolean isEnd = tokens.keyword == Tokens.END;
+                if (isEnd ? !readEnd(y) : !mayBegin(y) || !readStep(y, f)) {
                     return false;
                 }
             }
@@ -1481,139 +1459,86 @@ public final class TinFen {
             return true;
         }
 
-        private boolean readStep(Years y, Fen f) {
-            int step = tokens.keyword;
-            boolean plain = step == Tokens.STOP || (step >= Tokens.PASS && step <= Tokens.ANY);
-            boolean opens = step == Tokens.WHEN || step == Tokens.LOOP;
-            if (!plain && !opens) {
+        /** Whether a STEP can stand here by its WORD alone. */
+        private boolean mayBegin(Years y) {
+            int word = tokens.keyword;
+            boolean opens = word == Tokens.WHEN || word == Tokens.LOOP;
+            if (!opens && word != Tokens.STOP && (word < Tokens.PASS || word > Tokens.ANY)) {
                 return tokens.misplaced();
             }
             if (y.steps >= Years.MAX_STEPS) {
                 return tokens.faulty(6);
             }
-            if (opens && depth >= MAX_DEPTH) {
-                return tokens.faulty(7);
-            }
-            tokens.advance();
-            if (opens) {
+            return !opens || depth < MAX_DEPTH || tokens.faulty(7);
+        }
+
+        private boolean readStep(Years y, Fen f) {
+            int op = tokens.keyword;
+            if (op == Tokens.WHEN || op == Tokens.LOOP) {
                 opened[depth] = y.size;
                 depth++;
             }
-            return readRest(y, f, step) && tokens.takeSemicolon();
-        }
-
-        private boolean readRest(Years y, Fen f, int step) {
-            switch (step) {
-                case Tokens.PASS:
-                    return readTinAndPerson(y, f, Years.PASS);
-                case Tokens.BITE:
-                    return readTinAlone(y, f, Years.BITE);
-                case Tokens.LEARN:
-                    return readPersonAndTrait(y, f, Years.LEARN);
-                case Tokens.LOSE:
-                    return readPersonAndTrait(y, f, Years.LOSE);
-                case Tokens.ANY:
-                    y.addStep(Years.ANY, 0, 0);
-                    return true;
-                case Tokens.STOP:
-                    y.addStep(Years.STOP, 0, 0);
-                    return true;
-                case Tokens.LOOP:
-                    return readLoop(y);
-                default:
-                    return readTest(y, f);
-            }
-        }
-
-        private boolean readLoop(Years y) {
-            int times = tokens.takeNumber(1, MAX_LOOP);
-            if (times < 0) {
-                return false;
-            }
-            y.addStep(Years.LOOP, times, 0);
-            return true;
-        }
-
-        private boolean readTest(Years y, Fen f) {
-            switch (tokens.keyword) {
-                case Tokens.ON:
-                    tokens.advance();
-                    return readTinAndPerson(y, f, Years.WHEN_ON);
-                case Tokens.GONE:
-                    tokens.advance();
-                    return readTinAlone(y, f, Years.WHEN_GONE);
-                case Tokens.GOT:
-                    tokens.advance();
-                    return readGot(y, f);
-                default:
-                    return tokens.misplaced();
-            }
-        }
-
-        private boolean readGot(Years y, Fen f) {
-            int person = tokens.takeKnown(f.personNames, f.people);
-            if (person < 0) {
-                return false;
-            }
-            int kind = comparing(tokens.sign);
-            if (kind < 0) {
-                return tokens.misplaced();
-            }
             tokens.advance();
-            int number = tokens.takeNumber(0, MAX_GOT);
-            if (number < 0) {
+            if (op == Tokens.WHEN) {
+                op = tokens.keyword;
+                if (op != Tokens.ON && op != Tokens.GOT && op != Tokens.GONE) {
+                    return tokens.misplaced();
+                }
+                tokens.advance();
+            }
+            int first = takeFirst(f, op);
+            if (first < 0) {
                 return false;
             }
-            y.addStep(kind, person, number);
-            return true;
+            if (op == Tokens.GOT) {
+                op = tokens.sign;
+                if (op != '<' && op != '>' && op != '=') {
+                    return tokens.misplaced();
+                }
+                tokens.advance();
+            }
+            int second = takeSecond(f, op);
+            if (second < 0) {
+                return false;
+            }
+            y.addStep(op, first, second);
+            return tokens.takeSemicolon();
         }
 
-        private static int comparing(int sign) {
-            switch (sign) {
-                case '<':
-                    return Years.WHEN_LESS;
-                case '>':
-                    return Years.WHEN_MORE;
-                case '=':
-                    return Years.WHEN_SAME;
+        /** What stands behind the WORD, 0 if nothing has to, or NONE with a FAULT. */
+        private int takeFirst(Fen f, int op) {
+            switch (op) {
+                case Tokens.PASS:
+                case Tokens.BITE:
+                case Tokens.ON:
+                case Tokens.GONE:
+                    return tokens.takeKnown(f.tinNames, f.tins);
+                case Tokens.LEARN:
+                case Tokens.LOSE:
+                case Tokens.GOT:
+                    return tokens.takeKnown(f.personNames, f.people);
+                case Tokens.LOOP:
+                    return tokens.takeNumber(1, MAX_LOOP);
                 default:
-                    return NONE;
+                    return 0;
             }
         }
 
-        private boolean readTinAndPerson(Years y, Fen f, int kind) {
-            int tin = tokens.takeKnown(f.tinNames, f.tins);
-            if (tin < 0) {
-                return false;
+        private int takeSecond(Fen f, int op) {
+            switch (op) {
+                case Tokens.PASS:
+                case Tokens.ON:
+                    return tokens.takeKnown(f.personNames, f.people);
+                case Tokens.LEARN:
+                case Tokens.LOSE:
+                    return tokens.takeKnown(f.traitNames, f.traits);
+                case '<':
+                case '>':
+                case '=':
+                    return tokens.takeNumber(0, MAX_GOT);
+                default:
+                    return 0;
             }
-            int person = tokens.takeKnown(f.personNames, f.people);
-            if (person < 0) {
-                return false;
-            }
-            y.addStep(kind, tin, person);
-            return true;
-        }
-
-        private boolean readTinAlone(Years y, Fen f, int kind) {
-            int tin = tokens.takeKnown(f.tinNames, f.tins);
-            if (tin < 0) {
-                return false;
-            }
-            y.addStep(kind, tin, 0);
-            return true;
-        }
-
-        private boolean readPersonAndTrait(Years y, Fen f, int kind) {
-            int person = tokens.takeKnown(f.personNames, f.people);
-            if (person < 0) {
-                return false;
-            }
-            int trait = tokens.takeKnown(f.traitNames, f.traits);
-            if (trait < 0) {
-                return false;
-            }
-            y.addStep(kind, person, trait);
-            return true;
         }
     }
 
@@ -1645,7 +1570,7 @@ public final class TinFen {
             int foundAhead = f.found;
             int gotAhead = f.gotByAll();
             for (int i = 0; i < MAX_OPS_DONE && at >= 0 && at < f.years.size; i++) {
-                if (f.years.op[at] == Years.END) {
+                if (f.years.op[at] == Tokens.END) {
                     doEnd(f.years);
                 } else if (steps >= MAX_DONE) {
                     left = 1;
@@ -1662,7 +1587,7 @@ public final class TinFen {
 
         private void doEnd(Years y) {
             int opening = y.link[at];
-            if (y.op[opening] == Years.LOOP) {
+            if (y.op[opening] == Tokens.LOOP) {
                 turnsLeft[opening]--;
                 if (turnsLeft[opening] > 0) {
                     at = opening;
@@ -1676,25 +1601,25 @@ public final class TinFen {
             int a = y.first[at];
             int b = y.second[at];
             switch (y.op[at]) {
-                case Years.PASS:
+                case Tokens.PASS:
                     doPass(f, a, b);
                     break;
-                case Years.BITE:
+                case Tokens.BITE:
                     doBite(f, a);
                     break;
-                case Years.LEARN:
+                case Tokens.LEARN:
                     doTurn(f, a, b, true);
                     break;
-                case Years.LOSE:
+                case Tokens.LOSE:
                     doTurn(f, a, b, false);
                     break;
-                case Years.ANY:
+                case Tokens.ANY:
                     doAny(f);
                     break;
-                case Years.STOP:
+                case Tokens.STOP:
                     at = y.size;
                     break;
-                case Years.LOOP:
+                case Tokens.LOOP:
                     turnsLeft[at] = a;
                     break;
                 default:
@@ -1742,13 +1667,13 @@ public final class TinFen {
 
         private static boolean holds(Fen f, int test, int a, int b) {
             switch (test) {
-                case Years.WHEN_ON:
+                case Tokens.ON:
                     return f.holder[a] == b;
-                case Years.WHEN_GONE:
+                case Tokens.GONE:
                     return f.isGone(a);
-                case Years.WHEN_LESS:
+                case '<':
                     return f.got[a] < b;
-                case Years.WHEN_MORE:
+                case '>':
                     return f.got[a] > b;
                 default:
                     return f.got[a] == b;
