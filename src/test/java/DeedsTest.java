@@ -220,6 +220,11 @@ public final class DeedsTest {
         Check.due("the FAULT stays", x.fault(0), 0);
         Check.fine("what live() told stays", x, x.lived(0), missed);
         Check.fine("the YEARS are back", x, x.live(5), 3);
-        Check.fine("NAMES are back", x, Check.years(x, "pass c cyd;"), 1);
+        Check.fine("NAMES are back", x, Check.years(x, "pass c cyd;learn dot wit;bite d;"), 3);
+        x.mark();
+        Check.fen(x, "trait u worth 1;trait v worth 1;trait w worth 1;person k;person l;person m;person n;");
+        x.back();
+        Check.fine("NAMES are back again", x, Check.years(x, "pass c cyd;learn dot wit;lose ann hand;"), 3);
+        Check.fault("not those in between", x, Check.years(x, "learn dot u;"), 3, 10);
     }
 }

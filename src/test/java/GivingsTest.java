@@ -1,6 +1,7 @@
 /** Promises 33 to 40: givings, COVER, BLAMED, WHEELS. */
 public final class GivingsTest {
     public static void main(String[] args) {
+        givenAlone();
         heaps();
         heapsRefused();
         largest();
@@ -9,6 +10,16 @@ public final class GivingsTest {
         wheels();
         wheelsOfSeven();
         Check.end();
+    }
+
+    /** No other call has to be made ahead of it, and none of another set harms. */
+    private static void givenAlone() {
+        TinFen x = Check.ann();
+        Check.fine("given at once", x, x.given(14, 3), 3);
+        Check.fine("most of another set", x, x.most(1), 1);
+        Check.fine("given behind most", x, x.given(14, 2), 1);
+        Check.fine("givings of another set", x, x.givings(0), 1);
+        Check.fine("given behind givings", x, x.given(14, 1), 0);
     }
 
     private static void heaps() {

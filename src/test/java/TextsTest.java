@@ -4,6 +4,8 @@ public final class TextsTest {
         feed();
         fenTaken();
         fenRefused();
+        fenInPlaceOfOthers();
+        cutShort();
         fault();
         faultsOfTokens();
         faultsOfPlaces();
@@ -76,6 +78,46 @@ public final class TextsTest {
         Check.fine("none GONE", x, x.many(6), 0);
     }
 
+    /** Nothing of the FENS ahead is left, taken or not, however many there were. */
+    private static void fenInPlaceOfOthers() {
+        TinFen x = Check.ann();
+        for (int i = 0; i < 4; i++) {
+            x.pass(2, 1);
+            x.bite(3);
+            x.bite(2);
+            Check.fine("plain", x, Check.fen(x, "trait t worth 1;person p;person q is t;tin x of t on p;tin y of t on p;"
+                + "tin z of t on p;"), 3);
+            int[] due = {1, 2, 0, 3, 8, 0, 0, 0, 0, 3};
+            for (int what = 0; what < 10; what++) {
+                Check.fine("many " + what, x, x.many(what), due[what]);
+            }
+            Check.fine("they do not MEET", x, x.person(0, 1), 0);
+            Check.fine("PASSED", x, x.tin(2, 4), 0);
+            Check.fine("GOT", x, x.person(0, 3), 0);
+            Check.fine("TRUE of none", x, x.person(0, 0), 0);
+            x.lane(0, 1);
+            x.pass(2, 1);
+            Check.fen(x, i % 2 == 0 ? "odds 3;lane" : Check.ANN + "tin");
+            Check.fine("ann", x, Check.fen(x, Check.ANN), 4);
+        }
+    }
+
+    /** What stands behind the first n bytes does not count. */
+    private static void cutShort() {
+        TinFen x = new TinFen();
+        Check.feedText(x, "person annodds 16");
+        Check.fault("person ann", x, x.fen(10), 2, 10);
+        Check.feedText(x, "odds 16;");
+        Check.fault("odds 1", x, x.fen(6), 2, 6);
+        Check.feedText(x, "person ann;odds 16;");
+        Check.fine("person ann;", x, x.fen(11), 0);
+        Check.fine("no odds", x, x.many(4), 8);
+        Check.fine("odds 0", x, Check.fen(x, "odds 0;"), 0);
+        Check.fine("0", x, x.many(4), 0);
+        Check.fine("odds 16, worth 0", x, Check.fen(x, "odds 16;trait t worth 0;"), 0);
+        Check.fine("16", x, x.many(4), 16);
+    }
+
     private static void fault() {
         TinFen x = new TinFen();
         x.fen(1);
@@ -135,6 +177,11 @@ public final class TextsTest {
         Check.fenFault("person a b;", 2, 9);
         Check.fenFault("person a;lane a;", 2, 15);
         Check.fenFault("person a;person b;lane a b c;", 2, 27);
+        Check.fenFault("person a;person b;lane a b", 2, 26);
+        Check.fenFault("person a", 2, 8);
+        Check.fenFault("trait a worth 1", 2, 15);
+        Check.fenFault("trait t worth 1;person p;tin x of t on p", 2, 40);
+        Check.fenFault("trait t worth 1;person p;tin x of t on p lead", 2, 45);
         Check.fenFault("trait t worth 1;person p;tin x on p;", 2, 31);
         Check.fenFault("trait t worth 1;person p;tin x of t of p;", 2, 36);
         Check.fenFault("trait t worth 1;person p;tin x of t on p sound;", 2, 41);

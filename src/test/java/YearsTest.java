@@ -83,6 +83,9 @@ public final class YearsTest {
         Check.yearsFault("when gone;", 2, 9);
         Check.yearsFault("when got ann;", 2, 12);
         Check.yearsFault("when got ann ; 1;", 2, 13);
+        Check.yearsFault("when got ann <;end;", 2, 14);
+        Check.yearsFault("loop 7 7;end;", 2, 7);
+        Check.yearsFault("when gone a", 2, 11);
         Check.yearsFault("when got ann < ann;", 2, 15);
         Check.yearsFault("when got ann < = 1;", 2, 15);
         Check.yearsFault("when got ann < 1 end;", 2, 17);
@@ -226,6 +229,14 @@ public final class YearsTest {
         Check.years(none, "any;any;");
         Check.fine("without TINS", none, none.live(3), 2);
         Check.fine("MISSED", none, none.lived(0), 2);
+        // one TIN alone: both draws are made
+        for (int seed = 0; seed < 20; seed++) {
+            TinFen one = Check.of("trait t worth 1;person p is t;person q is t;person r is t;lane p q;lane p r;tin a of t on p;");
+            Check.years(one, "any;");
+            one.live(seed);
+            int person = next(next(seed)) / 8 % 3;
+            Check.fine("one TIN by seed " + seed, one, one.tin(0, 1), person);
+        }
         // what was struck, and what is GONE, is drawn, too
         TinFen x = Check.of("trait t worth 1;person p is t;person q is t;lane p q;tin a of t on p;");
         x.drop(0);
