@@ -85,8 +85,10 @@ public final class TextsTest {
             x.pass(2, 1);
             x.bite(3);
             x.bite(2);
-            Check.fine("plain", x, Check.fen(x, "trait t worth 1;person p;person q is t;tin x of t on p;tin y of t on p;"
-                + "tin z of t on p;"), 3);
+            for (int k = 0; k <= i; k++) {
+                Check.fine("plain", x, Check.fen(x, "trait t worth 1;person p;person q is t;tin x of t on p;"
+                    + "tin y of t on p;tin z of t on p;"), 3);
+            }
             int[] due = {1, 2, 0, 3, 8, 0, 0, 0, 0, 3};
             for (int what = 0; what < 10; what++) {
                 Check.fine("many " + what, x, x.many(what), due[what]);
