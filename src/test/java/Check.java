@@ -8,6 +8,8 @@ final class Check {
 
     private static int wrong = 0;
     private static int asked = 0;
+    /** The test that runs now, ahead of what is printed. */
+    private static String within = "";
 
     private Check() {
     }
@@ -16,7 +18,23 @@ final class Check {
         asked++;
         if (got != want) {
             wrong++;
-            System.out.println(what + " answered " + got + ", due is " + want);
+            System.out.println(within + what + " answered " + got + ", due is " + want);
+        }
+    }
+
+    static void nameTest(String name) {
+        within = name + ": ";
+    }
+
+    static int wrongSoFar() {
+        return wrong;
+    }
+
+    static void same(String what, String got, String want) {
+        asked++;
+        if (!got.equals(want)) {
+            wrong++;
+            System.out.println(within + what + " is\n  " + got + "\n  due is\n  " + want);
         }
     }
 
