@@ -245,6 +245,15 @@ final class Edges {
         return x;
     }
 
+    /** The WORD, whole or cut, with which a text ends, or "". */
+    static String lastWord(String text) {
+        int at = text.length();
+        while (at > 0 && text.charAt(at - 1) >= 'a' && text.charAt(at - 1) <= 'z') {
+            at--;
+        }
+        return text.substring(at);
+    }
+
     /** Six TRAITS a to f, seven PEOPLE g to m in a ring with short cuts, all TRUE of all; a TIN n to v on each one. */
     static String fullText() {
         StringBuilder text = new StringBuilder();

@@ -51,6 +51,23 @@ public final class Promises01To17EdgeTest {
         Check.refused("its TRAYS", x, x.read(0, 0), 3);
     }
 
+    /** "An object is used for at most 512 calls after it has been made": the 512th is answered as the first. */
+    private static void promise01_anObjectIsUsedFor512Calls() {
+        TinFen x = new TinFen();
+        int calls = 6;
+        x.feed(0x74726169, 0x74207420, 0x776f7274, 0x68203939, 0x3b706572);
+        x.feed(0x736f6e20, 0x70206973, 0x20743b70, 0x6572736f, 0x6e207120);
+        x.feed(0x69732074, 0x3b6c616e, 0x65207020, 0x713b7469, 0x6e206120);
+        x.feed(0x6f662074, 0x206f6e20, 0x703b2020, 0x20202020, 0x20202020);
+        Check.due("fen", x.fen(80), 1);
+        Check.due("mark", x.mark(), 1);
+        for (; calls < 510; calls++) {
+            Check.due("pass", x.pass(0, 1 - calls % 2), 99 * ((calls - 6) / 2 + 1));
+        }
+        Check.due("the 511th", x.back(), 0);
+        Check.due("the 512th", x.person(0, 3), 0);
+    }
+
     private static void promise02_statusOfTheLatestCallThatHasOne() {
         TinFen x = Check.ann();
         Check.refused("5", x, x.many(10), 5);
@@ -299,6 +316,31 @@ public final class Promises01To17EdgeTest {
         Check.feedText(x, "!!!!");
         Check.fine("the first 0", x, x.fen(0), 0);
         Check.refused("the tape is empty then", x, x.fen(1), 5);
+    }
+
+    /** What stands behind the first n bytes does not count, though it would make a TOKEN longer. */
+    private static void promise10_whatStandsBehindTheFirstBytes() {
+        TinFen x = new TinFen();
+        Check.feedText(x, "odds 1;person p;1234");
+        Check.fault("odds 1", x, x.fen(6), 2, 6);
+        Check.feedText(x, "odds 16;");
+        Check.fault("odds 1 of 16", x, x.fen(6), 2, 6);
+        Check.feedText(x, "person ppp;");
+        Check.fault("person p of ppp", x, x.fen(8), 2, 8);
+        Check.feedText(x, "odds 12345;");
+        Check.fault("1234 of 12345 is a NUMBER, that can't be", x, x.fen(9), 4, 5);
+        Check.feedText(x, "odds    ;");
+        Check.fault("blanks", x, x.fen(6), 2, 6);
+        TinFen y = Check.ann();
+        Check.feedText(y, "loop 12;end;");
+        Check.fault("loop 1 of 12", y, y.years(6), 2, 6);
+        Check.feedText(y, "anything;");
+        Check.fault("any of anything", y, y.years(3), 2, 3);
+        // a longer text that was on the tape ahead leaves nothing
+        Check.feedText(y, "any;any;any;any;any;any;any;");
+        Check.fine("one", y, y.years(4), 1);
+        y.feed(0x616e793b, 0x20202020, 0x20202020, 0x20202020, 0x20202020);
+        Check.fine("one", y, y.years(20), 1);
     }
 
     private static void promise10_moreBytesThanThereAre() {

@@ -390,6 +390,12 @@ public final class Promises18To32EdgeTest {
         Check.fine("by b", x, x.wayAt(0, 6, 1), 1);
         TinFen y = Check.of("trait t worth 1;person a is t;person b is t;person c is t;person d is t;person e is t;person f is t;"
             + "person g is t;tin x of t on d;lane d f;lane d b;lane f a;lane b e;lane a g;lane e g;");
+        int[] by0 = {3, 0, 1, 6};
+        TinFen z = Check.of("trait t worth 1;person a is t;person b is t;person c is t;person d is t;person e is t;person f is t;"
+            + "person g is t;tin x of t on d;lane d a;lane a b;lane b g;lane d c;lane c b;");
+        for (int k = 0; k < 4; k++) {
+            Check.fine("by PERSON 0", z, z.wayAt(0, 6, k), by0[k]);
+        }
         int[] due = {3, 1, 4, 6};
         Check.fine("three", y, y.way(0, 6), 3);
         for (int k = 0; k < 4; k++) {

@@ -32,6 +32,10 @@ public final class Promises33To47EdgeTest {
         Check.fine("no two to one", x, x.givings(3), 0);
         Check.fine("TRUE of nobody", x, x.most(4), 0);
         Check.refused("TRUE of nobody", x, x.given(4, 2), 8);
+        Check.refused("nor can the others of its set", x, x.given(5, 0), 8);
+        TinFen y = Check.of("trait t worth 1;trait u worth 1;person p is t;tin a of u on p;tin b of t on p;");
+        Check.refused("the first is TRUE of nobody", y, y.given(3, 0), 8);
+        Check.refused("nor can the second of its set", y, y.given(3, 1), 8);
     }
 
     private static void promise33_mostOfASet() {
@@ -361,6 +365,23 @@ public final class Promises33To47EdgeTest {
         }, 8, y -> y.ask(0, 0));
     }
 
+    /** "the most with one number are the fewest; of several the first". */
+    private static void promise43_askHimWhoPartsThemTheBest() {
+        TinFen x = Check.of("trait a worth 1;trait b worth 1;trait c worth 1;trait d worth 1;person p;person q is a;"
+            + "person r is a b c d;person s is a b c;person t is b c d;");
+        x.tray(0, 0, 4);
+        // of 16 sets p parts 16, q 8 and 8, r 1 4 6 4 1, s and t 2 6 6 2
+        Check.fine("r, s and t have 6 at the most: r is the first", x, x.ask(0, 0), 2);
+        x.write(0, 0, 2);
+        x.write(0, 1, 2);
+        // of the six sets of two q parts 3 and 3, s and t 3 (two of three) and 3 (one of three)
+        Check.fine("q, s and t have 3: q is the first", x, x.ask(0, 1), 1);
+        x.write(0, 2, 1);
+        x.write(0, 3, 1);
+        // of ab, ac, ad p parts 3, s 2 and 1, t 3
+        Check.fine("s has 2 at the most", x, x.ask(0, 2), 3);
+    }
+
     // ---- games
 
     private static void promise44_gameOf0To3Turns() {
@@ -440,6 +461,33 @@ public final class Promises33To47EdgeTest {
         Check.fine("to r", x, x.moveOf(0, 1, 1, 1), 2);
         x.drop(1);
         Check.refused("nothing is left", x, x.moveOf(0, 1, 1, 0), 8);
+    }
+
+    /** TIN 0 and PERSON 0 are as good as any other, and what was PASSED can be PASSED on. */
+    private static void promise45_tin0ToPerson0() {
+        TinFen x = Check.of("trait t worth 4;trait u worth 3;person p is t;person q is t;person r is u;lane p q;lane p r;"
+            + "tin a of t on q;tin b of u on p;");
+        Check.fine("q spends a on p", x, x.game(1, 2, 1), 4);
+        Check.fine("a", x, x.moveOf(1, 2, 1, 0), 0);
+        Check.fine("to p", x, x.moveOf(1, 2, 1, 1), 0);
+        Check.fine("p gives it back", x, x.game(1, 0, 2), 0);
+        Check.fine("p spends b, worth 3, and keeps a", x, x.game(1, 0, 3), 1);
+        x.drop(1);
+        Check.fine("p keeps a", x, x.game(1, 0, 3), 4);
+        Check.fine("p has nothing to spend but what q gives him", x, x.game(0, 1, 2), -4);
+        Check.fine("then p gives it back in the last turn", x, x.game(0, 1, 3), 0);
+        Check.refused("p has nothing", x, x.moveOf(0, 1, 3, 0), 8);
+    }
+
+    private static void promise45_nothingIsBetter() {
+        // what p gives to q, q spends on r: p waits for the last turn
+        TinFen x = Check.of("trait v worth 4;person p;person q is v;person r is v;lane p q;lane q r;tin a of v on p;");
+        Check.fine("4 and 4 lost", x, x.game(0, 1, 2), 0);
+        Check.fine("as good as nothing, and ahead of it", x, x.moveOf(0, 1, 2, 0), 0);
+        Check.fine("in the last turn", x, x.game(0, 1, 3), 4);
+        Check.refused("nothing", x, x.moveOf(0, 1, 3, 0), 8);
+        Check.refused("nothing", x, x.moveOf(0, 1, 3, 1), 8);
+        Check.fine("at once, of one turn", x, x.moveOf(0, 1, 1, 1), 1);
     }
 
     // ---- odds

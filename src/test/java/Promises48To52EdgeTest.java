@@ -94,19 +94,11 @@ public final class Promises48To52EdgeTest {
             if ((cut.isEmpty() || cut.endsWith(";")) && opened(cut) == 0) {
                 Check.due("taken: " + cut, steps >= 0, true);
             } else {
-                String last = cut.substring(startOfLastWord(cut));
+                String last = Edges.lastWord(cut);
                 boolean broken = !last.isEmpty() && !"v x y".contains(last) && !WORDS.contains(last);
                 Check.fault(cut, x, steps, 2, broken ? n - last.length() : n);
             }
         }
-    }
-
-    private static int startOfLastWord(String text) {
-        int at = text.length();
-        while (at > 0 && text.charAt(at - 1) >= 'a' && text.charAt(at - 1) <= 'z') {
-            at--;
-        }
-        return at;
     }
 
     private static int opened(String text) {
@@ -126,8 +118,21 @@ public final class Promises48To52EdgeTest {
         faulty("loop 1;  ", 2, 9);
         faulty("loop 1;any", 2, 10);
         faulty("loop 1;end", 2, 10);
+        faulty("loop 1;end any;end;", 2, 11);
+        faulty("loop 1;end end;", 2, 11);
         taken("loop 1;end;", 1);
         taken("when gone a;end;", 1);
+    }
+
+    /** What was opened in YEARS that were refused is not open in those that come next. */
+    private static void section4_nothingIsLeftOfYearsThatWereRefused() {
+        TinFen x = Check.of(THREE);
+        Check.fault("two are open", x, Check.years(x, "loop 1;loop 1;"), 2, 14);
+        Check.fault("an end without a beginning", x, Check.years(x, "end;"), 2, 0);
+        Check.fault("three are open", x, Check.years(x, "loop 1;loop 1;loop 1;"), 2, 21);
+        Check.fine("three again", x, Check.years(x, "loop 1;loop 1;loop 1;end;end;end;"), 3);
+        Check.fault("thirty-one", x, Check.years(x, "any;".repeat(31)), 6, 120);
+        Check.fine("thirty", x, Check.years(x, "any;".repeat(30)), 30);
     }
 
     private static void section4_aNameThatIsNoSuchOne() {
@@ -318,6 +323,24 @@ public final class Promises48To52EdgeTest {
         }
     }
 
+    /** By one TIN, by one PERSON the draw is 0, but it is made: the bite behind it shows that. */
+    private static void section4_anyOfOneTin() {
+        boolean[] seen = new boolean[2];
+        for (int seed = 0; seed < 30; seed++) {
+            TinFen x = Check.of("trait t worth 1;person p is t;person q is t;person r is t;lane p q;lane p r;lane q r;tin a of t on p;");
+            Check.years(x, "any;");
+            x.live(seed);
+            Check.fine("to whom", x, x.tin(0, 1), next(next(seed)) / 8 % 3);
+            TinFen one = Check.of("trait t worth 1;person p is t;tin a of t on p lead;");
+            Check.years(one, "any;bite a;");
+            one.live(seed);
+            boolean found = next(next(next(seed))) / 8 % 16 < 8;
+            seen[found ? 1 : 0] = true;
+            lived("one of each", one, found ? 1 : 2, 0, found ? 1 : 0, 0, 0);
+        }
+        Check.due("some are FOUND, some are not", seen[0] && seen[1], true);
+    }
+
     /** Both draws are made first, whatever is drawn: those behind an any that is MISSED show it. */
     private static void section4_anyMakesBothDraws() {
         for (int seed = 0; seed < 60; seed++) {
@@ -410,6 +433,9 @@ public final class Promises48To52EdgeTest {
         Check.fine("a when is left", t, t.lived(4), 1);
         TinFen s = lives("loop 99;loop 3;end;loop 3;end;any;end;any;any;", 0, 300);
         Check.fine("loops count as one each time", s, s.lived(4), 0);
+        Check.years(w, "any;");
+        w.live(0);
+        Check.fine("none is left in those that come next", w, w.lived(4), 0);
     }
 
     private static void section4_stopIsAStep() {

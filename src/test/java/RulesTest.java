@@ -10,6 +10,7 @@ import java.util.Set;
 import java.util.TreeSet;
 import java.util.regex.Matcher;
 import java.util.regex.Pattern;
+import java.util.stream.Stream;
 
 /** The public face of the document, and those rules of LANGUAGE.md that can be seen from the text. */
 public final class RulesTest {
@@ -31,6 +32,7 @@ public final class RulesTest {
         inside();
         words();
         sizes();
+        testsOfBoundaries();
         Check.end();
     }
 
@@ -117,6 +119,25 @@ public final class RulesTest {
             Check.due(calls.group() + " is allowed", allowed.contains(calls.group()), true);
         }
         Check.due("signs 1 to 127 alone", source().chars().allMatch(c -> c > 0 && c < 128), true);
+    }
+
+    /** Each promise, section and heading with boundaries has tests that are named after it. */
+    private static void testsOfBoundaries() throws IOException {
+        StringBuilder tests = new StringBuilder();
+        List<Path> files;
+        try (Stream<Path> all = Files.list(Path.of("src/test/java"))) {
+            files = all.filter(f -> f.toString().endsWith("Test.java")).toList();
+        }
+        for (Path file : files) {
+            tests.append(Files.readString(file));
+        }
+        for (int promise = 1; promise <= 52; promise++) {
+            String name = String.format("void promise%02d_", promise);
+            Check.due("a test " + name, tests.indexOf(name) >= 0, true);
+        }
+        for (String name : new String[] {"terms_", "section2_", "section3_", "section4_", "section5_"}) {
+            Check.due("a test " + name, tests.indexOf("void " + name) >= 0, true);
+        }
     }
 
     private static void sizes() throws IOException {

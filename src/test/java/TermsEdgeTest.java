@@ -369,7 +369,14 @@ public final class TermsEdgeTest {
 
     private static void terms_oddsAre8Without() {
         TinFen x = Check.of("odds 3;");
-        Check.fine("the next FEN", x, Check.fen(x, "person p;"), 0);
+        for (int i = 0; i < 3; i++) {
+            Check.fine("the next FEN", x, Check.fen(x, "person p;"), 0);
+            Check.fine("8", x, x.many(4), 8);
+        }
+        x.rule(5);
+        Check.fault("a FEN that is refused", x, Check.fen(x, "odds 7;!"), 1, 7);
+        Check.fine("5 still", x, x.many(4), 5);
+        Check.fine("the next FEN", x, Check.fen(x, ""), 0);
         Check.fine("8", x, x.many(4), 8);
     }
 
@@ -477,20 +484,12 @@ public final class TermsEdgeTest {
             if (cut.isEmpty() || cut.endsWith(";")) {
                 taken(cut, n == text.length() ? 1 : 0);
             } else {
-                String last = cut.substring(startOfLastWord(cut));
+                String last = Edges.lastWord(cut);
                 boolean broken = !last.isEmpty() && !"x y z v".contains(last) && !List.of(WORDS).contains(last);
                 faulty(cut, 2, broken ? n - last.length() : n);
                 faulty(cut + "  \n", 2, broken ? n - last.length() : n + 3);
             }
         }
-    }
-
-    private static int startOfLastWord(String text) {
-        int at = text.length();
-        while (at > 0 && isLetter(text.charAt(at - 1))) {
-            at--;
-        }
-        return at;
     }
 
     private static void terms_fault2ItCantStandThere() {
