@@ -1802,13 +1802,13 @@ public final class TinFen {
             int wheels = 0;
             for (int i = 0; i < f.people; i++) {
                 // those below the front can't stand in the row: they count as seen
-                wheels += wheelsOn(i, i, (2 << i) - 1, n - 1);
+                wheels += wheelsOn(gives, i, i, (2 << i) - 1, n - 1);
             }
             return wheels;
         }
 
         /** The ways to put so many more on a row that ends with 'last' and to close it. */
-        private int wheelsOn(int front, int last, int seen, int more) {
+        private static int wheelsOn(int[] gives, int front, int last, int seen, int more) {
             if (more <= 0) {
                 return (gives[last] >> front) & 1;
             }
@@ -1816,7 +1816,7 @@ public final class TinFen {
             int open = gives[last] & ~seen;
             for (int i = 0; i < MAX_PEOPLE; i++) {
                 if (((open >> i) & 1) != 0) {
-                    sum += wheelsOn(front, i, seen | 1 << i, more - 1);
+                    sum += wheelsOn(gives, front, i, seen | 1 << i, more - 1);
                 }
             }
             return sum;
@@ -2054,13 +2054,13 @@ public final class TinFen {
             if (turns < 1) {
                 return 0;
             }
-            int best = Integer.MIN_VALUE;
+            int best = 0;
             for (int tin = 0; tin < tins; tin++) {
                 int open = where[tin] == one ? f.meets[one] & takers[tin] : 0;
                 for (int i = 0; i < f.people; i++) {
                     if (((open >> i) & 1) != 0) {
                         int value = afterMove(f, tin, i, other, turns);
-                        if (value > best) {
+                        if (moveTin < 0 || value > best) {
                             best = value;
                             moveTin = tin;
                             movePerson = i;
@@ -2069,7 +2069,7 @@ public final class TinFen {
                 }
             }
             int idle = -bestFor(f, other, one, turns - 1);
-            if (idle > best) {
+            if (moveTin < 0 || idle > best) {
                 best = idle;
                 moveTin = NONE;
                 movePerson = NONE;
