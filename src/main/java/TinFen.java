@@ -1808,15 +1808,15 @@ public final class TinFen {
         }
 
         /** The ways to put so many more on a row that ends with 'last' and to close it. */
-        private static int wheelsOn(int[] gives, int front, int last, int seen, int more) {
+        private static int wheelsOn(int[] toWhom, int front, int last, int seen, int more) {
             if (more <= 0) {
-                return (gives[last] >> front) & 1;
+                return (toWhom[last] >> front) & 1;
             }
             int sum = 0;
-            int open = gives[last] & ~seen;
+            int open = toWhom[last] & ~seen;
             for (int i = 0; i < MAX_PEOPLE; i++) {
                 if (((open >> i) & 1) != 0) {
-                    sum += wheelsOn(gives, front, i, seen | 1 << i, more - 1);
+                    sum += wheelsOn(toWhom, front, i, seen | 1 << i, more - 1);
                 }
             }
             return sum;
